@@ -1,0 +1,21 @@
+/** Counts and prints the answers that are not the ones that are due. */
+final class Due {
+  private static final int SHOWN = 20;
+  private int wrong = 0;
+
+  void is(String call, long got, long want) {
+    if (got != want) {
+      wrong++;
+      if (wrong <= SHOWN) {
+        System.out.println(call + " answered " + got + ", due is " + want);
+      }
+    }
+  }
+
+  void end() {
+    if (wrong != 0) {
+      System.out.println(wrong + " answers are not as due");
+      System.exit(1);
+    }
+  }
+}
