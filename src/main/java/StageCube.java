@@ -143,6 +143,9 @@ public final class StageCube {
     return stages[number];
   }
 
+  // A longer reach makes the first search of a stage dearer and the others cheaper; these are
+  // balanced for a few searches an object. 2035, 1219, 2508 and 9089 states are nearer than the
+  // reach and go through the queue.
   private static Stage newStage(int number) {
     switch (number) {
       case 0:
@@ -632,7 +635,10 @@ public final class StageCube {
     // Four bits for each state: 1 more than its turns to the goal, or 0 when beyond the reach.
     private long[] near;
 
-    /** The faces below facesWithQuarters may make quarters; all may make halves. */
+    /**
+     * The faces below facesWithQuarters may make quarters; all may make halves. The queue must
+     * have room for all states that are nearer to the goal than reach.
+     */
     Stage(int facesWithQuarters, int reach, int queueLength, Feature[] features) {
       this.facesWithQuarters = facesWithQuarters;
       this.reach = reach;
@@ -673,7 +679,7 @@ public final class StageCube {
         return left == 0;
       }
       for (int face = 0; face < FACES; face++) {
-        if (isIdle(lastFace, face)) {
+        if (isNeedless(lastFace, face)) {
           continue;
         }
         copyDown(depth);
@@ -691,7 +697,7 @@ public final class StageCube {
     }
 
     // The same face twice is never shortest, and of two opposite faces the lower goes first.
-    private static boolean isIdle(int lastFace, int face) {
+    private static boolean isNeedless(int lastFace, int face) {
       return face == lastFace || face == lastFace - 1 && face / 2 == lastFace / 2;
     }
 
@@ -761,7 +767,7 @@ public final class StageCube {
       int[] queue = new int[queueLength];
       int count = 1;
       store(0, 0);
-      for (int i = 0; i < count; i++) {
+      for (int i = 0; i < count && i < queue.length; i++) {
         count = spread(queue[i], queue, count);
       }
     }
