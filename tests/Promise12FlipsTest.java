@@ -4,6 +4,21 @@ import java.util.Arrays;
 public final class Promise12FlipsTest {
   public static void main(String[] args) {
     Due due = new Due();
+    allFlips(due);
+    otherPiecesDoNotMatter(due);
+    noneAndTheMost(due);
+    theCubeAsItIs(due);
+    asLawfulWithEachFault(due);
+    asLawfulWithTheFirstOfManyFaults(due);
+    theCubeStays(due);
+    theWayStays(due);
+    theWayStaysWithAFault(due);
+    isNoTurn(due);
+    due.end();
+  }
+
+  private static void allFlips(Due due) {
+    due.by("'How many turns stage 1 of the cube as it is would have'");
     int[] turns = turnsByFlips();
     for (int flips = 0; flips < 4096; flips += 8) {
       StageCube cube = new StageCube();
@@ -11,10 +26,6 @@ public final class Promise12FlipsTest {
         compare(cube, flips + i, turns[flips + i], due);
       }
     }
-    otherPiecesDoNotMatter(due);
-    theWayStays(due);
-    unlawfulCubes(due);
-    due.end();
   }
 
   private static void compare(StageCube cube, int flips, int want, Due due) {
@@ -60,6 +71,7 @@ public final class Promise12FlipsTest {
   }
 
   private static void otherPiecesDoNotMatter(Due due) {
+    due.by("'stage 1': 'till all flips are 0'");
     StageCube cube = new StageCube();
     for (int turn = 0; turn < 12; turn++) {
       cube.turn(turn);
@@ -70,7 +82,65 @@ public final class Promise12FlipsTest {
     due.is("flips() after a quarter of front", cube.flips(), 1);
   }
 
+  private static void noneAndTheMost(Due due) {
+    due.by("'How many turns stage 1 .. would have', none and the most");
+    StageCube cube = new StageCube();
+    due.is("flips() of HOME", cube.flips(), 0);
+    for (int i = 0; i < 12; i++) {
+      cube.edge(i, i, 1);
+    }
+    due.is("flips() with all flipped", cube.flips(), 7);
+  }
+
+  private static void theCubeAsItIs(Due due) {
+    due.by("'of the cube as it is', not of the way found latest");
+    StageCube cube = new StageCube();
+    cube.turn(12);
+    due.is("flips()", cube.flips(), 1);
+    cube.solve();
+    due.is("flips() after solve()", cube.flips(), 1);
+    cube.home();
+    due.is("flips() after home()", cube.flips(), 0);
+    due.is("stage(1) after home()", cube.stage(1), 1);
+  }
+
+  private static void asLawfulWithEachFault(Due due) {
+    due.by("'as lawful() when that is not 1'");
+    for (Fault fault : Fault.values()) {
+      StageCube cube = new StageCube();
+      fault.put(cube);
+      due.is("flips() with " + fault, cube.flips(), fault.answer);
+      cube.home();
+      due.is("flips() after " + fault, cube.flips(), 0);
+    }
+  }
+
+  private static void asLawfulWithTheFirstOfManyFaults(Due due) {
+    due.by("'as lawful() when that is not 1', the first of many");
+    Fault[] all = Fault.values();
+    for (int first = 0; first < all.length; first++) {
+      StageCube cube = new StageCube();
+      for (int i = first; i < all.length; i++) {
+        all[i].put(cube);
+      }
+      due.is("flips() with " + all[first] + " and the next", cube.flips(), all[first].answer);
+    }
+  }
+
+  private static void theCubeStays(Due due) {
+    due.by("'would have', so the cube stays");
+    for (Fault fault : Fault.values()) {
+      StageCube cube = new StageCube();
+      ModelCube model = new ModelCube();
+      fault.put(cube);
+      fault.put(model);
+      cube.flips();
+      model.compare("after flips() with " + fault, cube, due);
+    }
+  }
+
   private static void theWayStays(Due due) {
+    due.by("'would have', so the way found latest stays");
     StageCube cube = new StageCube();
     cube.turn(1);
     cube.solve();
@@ -79,28 +149,29 @@ public final class Promise12FlipsTest {
     due.is("step(0) after flips()", cube.step(0), 1);
     due.is("step(1) after flips()", cube.step(1), StageCube.BAD);
     due.is("stage(1) after flips()", cube.stage(1), 0);
-    cube.home();
-    cube.corner(0, 1, 0);
-    due.is("flips() of an unlawful cube", cube.flips(), StageCube.NO_CORNERS);
-    due.is("step(0) after flips() of an unlawful cube", cube.step(0), 1);
+    due.is("stage(4) after flips()", cube.stage(4), 1);
   }
 
-  private static void unlawfulCubes(Due due) {
+  /** Only solve() finds a way or finds that there is none. */
+  private static void theWayStaysWithAFault(Due due) {
+    due.by("'as lawful() when that is not 1', and the way found latest stays");
+    for (Fault fault : Fault.values()) {
+      StageCube cube = new StageCube();
+      cube.turn(1);
+      cube.solve();
+      cube.home();
+      fault.put(cube);
+      due.is("flips() with " + fault, cube.flips(), fault.answer);
+      due.is("step(0) after flips() with " + fault, cube.step(0), 1);
+      due.is("stage(4) after flips() with " + fault, cube.stage(4), 1);
+    }
+  }
+
+  private static void isNoTurn(Due due) {
+    due.by("'how many turns were done', flips() does none");
     StageCube cube = new StageCube();
-    cube.corner(0, 1, 0);
-    due.is("flips() without a corner", cube.flips(), StageCube.NO_CORNERS);
-    cube.home();
-    cube.edge(0, 1, 0);
-    due.is("flips() without an edge", cube.flips(), StageCube.NO_EDGES);
-    cube.home();
-    cube.corner(6, 6, 2);
-    due.is("flips() with a twist", cube.flips(), StageCube.TWISTED);
-    cube.home();
-    cube.edge(9, 9, 1);
-    due.is("flips() with a flip", cube.flips(), StageCube.FLIPPED);
-    cube.home();
-    cube.edge(3, 8, 0);
-    cube.edge(8, 3, 0);
-    due.is("flips() with a swap", cube.flips(), StageCube.ODD);
+    cube.turn(12);
+    cube.flips();
+    due.is("home()", cube.home(), 1);
   }
 }
