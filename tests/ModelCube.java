@@ -1,3 +1,4 @@
+import java.util.Arrays;
 import java.util.Random;
 
 /**
@@ -150,17 +151,14 @@ final class ModelCube {
   }
 
   boolean isHome() {
-    for (int i = 0; i < 8; i++) {
-      if (corner[i] != i || twist[i] != 0) {
-        return false;
-      }
-    }
-    for (int i = 0; i < 12; i++) {
-      if (edge[i] != i || flip[i] != 0) {
-        return false;
-      }
-    }
-    return true;
+    return equalTo(new ModelCube());
+  }
+
+  boolean equalTo(ModelCube other) {
+    return Arrays.equals(corner, other.corner)
+        && Arrays.equals(twist, other.twist)
+        && Arrays.equals(edge, other.edge)
+        && Arrays.equals(flip, other.flip);
   }
 
   /** Swaps two corners when that is needed to make the cube lawful. */

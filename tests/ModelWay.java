@@ -59,12 +59,6 @@ final class ModelWay {
   private final View[] views = {new Flips(), new TwistsAndMiddle(), new Halves(), new Whole()};
   private final Distances[] distances = new Distances[4];
 
-  ModelWay() {
-    for (int stage = 0; stage < 4; stage++) {
-      distances[stage] = spread(stage);
-    }
-  }
-
   static boolean allowed(int stage, int turn) {
     int face = turn / 3;
     boolean half = turn % 3 == 1;
@@ -80,8 +74,18 @@ final class ModelWay {
     }
   }
 
+  /** Found when first asked for: not every test needs all stages. */
   Distances distances(int stage) {
+    if (distances[stage] == null) {
+      distances[stage] = spread(stage);
+    }
     return distances[stage];
+  }
+
+  /** By looking whether the very cube is among all those that halves make from HOME. */
+  boolean canComeHomeByHalves(ModelCube cube) {
+    long key = views[3].key(cube);
+    return distances(3).of(key) >= 0 && views[3].show(key).equalTo(cube);
   }
 
   /** A lawful cube of that state of the stage, done with the stages before. */
@@ -119,7 +123,7 @@ final class ModelWay {
   /** The turns of one stage; the cube goes along. */
   List<Integer> walk(int stage, ModelCube cube) {
     List<Integer> way = new ArrayList<>();
-    int left = distances[stage].of(views[stage].key(cube));
+    int left = distances(stage).of(views[stage].key(cube));
     while (left > 0) {
       left--;
       way.add(firstTurnTo(stage, left, cube));
@@ -132,7 +136,7 @@ final class ModelWay {
       if (allowed(stage, turn)) {
         ModelCube next = cube.copy();
         next.turn(turn);
-        if (distances[stage].of(views[stage].key(next)) == left) {
+        if (distances(stage).of(views[stage].key(next)) == left) {
           cube.copyFrom(next);
           return turn;
         }

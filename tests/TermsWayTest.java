@@ -1,3 +1,4 @@
+import java.util.Arrays;
 import java.util.Random;
 
 /** 'Terms', THE WAY HOME: its four stages, none of them, and the first of ways equally short. */
@@ -94,7 +95,9 @@ public final class TermsWayTest {
   }
 
   private static void goalsAreReachedAtTheEndAndNotBefore(Due due) {
-    due.by("'till all flips are 0', 'till all twists are 0 and the edges 8 .. 11 ..', 'home'");
+    due.by("'till all flips are 0', 'till all twists are 0 and the edges 8 .. 11 ..', "
+        + "'till the cube can be brought home by halves alone', 'till it is home'");
+    ModelWay model = new ModelWay();
     for (int round = 0; round < 60; round++) {
       StageCube cube = new StageCube();
       ModelCube walker = new ModelCube();
@@ -105,28 +108,38 @@ public final class TermsWayTest {
         int end = step + cube.stage(stage);
         for (; step < end; step++) {
           due.is("whether the goal of stage " + stage + " is reached early",
-              stage != 3 && isReached(stage, walker) ? 1 : 0, 0);
+              isReached(model, stage, walker) ? 1 : 0, 0);
           walker.turn(cube.step(step));
         }
         due.is("whether the goal of stage " + stage + " is reached",
-            stage == 3 || isReached(stage, walker) ? 1 : 0, 1);
+            isReached(model, stage, walker) ? 1 : 0, 1);
       }
     }
   }
 
-  /** For stages 1, 2 and 4; whether halves can bring a cube home is not seen at once. */
-  private static boolean isReached(int stage, ModelCube cube) {
-    if (stage == 4) {
-      return cube.isHome();
+  private static boolean isReached(ModelWay model, int stage, ModelCube cube) {
+    switch (stage) {
+      case 1:
+        return hasNoFlips(cube);
+      case 2:
+        return hasNoTwists(cube) && hasMiddleEdgesAtTheirPositions(cube);
+      case 3:
+        return model.canComeHomeByHalves(cube);
+      default:
+        return cube.isHome();
     }
-    boolean reached = true;
-    for (int i = 0; i < 12; i++) {
-      reached &= stage == 1 ? cube.flip[i] == 0 : i < 8 || cube.edge[i] >= 8;
-    }
-    for (int i = 0; i < 8; i++) {
-      reached &= stage == 1 || cube.twist[i] == 0;
-    }
-    return reached;
+  }
+
+  private static boolean hasNoFlips(ModelCube cube) {
+    return Arrays.stream(cube.flip).allMatch(flip -> flip == 0);
+  }
+
+  private static boolean hasNoTwists(ModelCube cube) {
+    return Arrays.stream(cube.twist).allMatch(twist -> twist == 0);
+  }
+
+  private static boolean hasMiddleEdgesAtTheirPositions(ModelCube cube) {
+    return Arrays.stream(cube.edge, 8, 12).allMatch(edge -> edge >= 8);
   }
 
   private static void mix(StageCube cube, ModelCube model) {
